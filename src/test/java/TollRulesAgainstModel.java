@@ -5,8 +5,8 @@ import java.util.List;
 
 /** Long runs of mixed calls, each answer held against a second, plain form of the document. */
 public final class TollRulesAgainstModel {
-    private static final int RUNS = 1500;
-    private static final int CALLS = 500;
+    private static final int RUNS = 6000;
+    private static final int CALLS = 512;
     private static final int[] ODD = {-1, -2, 50, -50, 1000, Integer.MIN_VALUE, Integer.MAX_VALUE};
 
     private static long seed;
@@ -265,6 +265,20 @@ public final class TollRulesAgainstModel {
             return rows[q] == null ? 0 : 1;
         }
 
+        int failed(int what) {
+            return what == 0 ? failedKind : what == 1 ? failedAt : -1;
+        }
+
+        int count(int what) {
+            int nothing = (int) Arrays.stream(rows).filter(row -> row == null).count();
+            int[] all = {rules.size(), allSteps, failedCalls, others, nothing};
+            return what >= 0 && what < all.length ? all[what] : -1;
+        }
+
+        long has(int p) {
+            return p < 0 || p > 7 ? Long.MIN_VALUE : board[p];
+        }
+
         long place(int p, int v) {
             if (p < 0 || p > 7) {
                 return Long.MIN_VALUE;
@@ -322,22 +336,29 @@ public final class TollRulesAgainstModel {
         }
     }
 
-    private static boolean sameState(TollRules t, Model m) {
-        boolean same = t.result() == m.result && t.steps() == m.steps
-                && t.failed(0) == m.failedKind && t.failed(1) == m.failedAt
-                && t.count(0) == m.rules.size() && t.count(1) == m.allSteps
-                && t.count(2) == m.failedCalls && t.count(3) == m.others;
-        int nothing = 0;
-        for (int r = 0; r < 4; r++) {
-            nothing += m.rows[r] == null ? 1 : 0;
-            for (int i = -1; i <= 10; i++) {
-                same &= t.item(r, i) == m.item(r, i);
+    /** A question that changes nothing, asked behind each call. */
+    private static long[] oneQuestion(TollRules t, Model m) {
+        int what = 20 + below(8);
+        switch (what) {
+            case 20: return new long[] {what, t.result(), m.result};
+            case 21: return new long[] {what, t.steps(), m.steps};
+            case 22: { int of = near(2); return new long[] {what, t.failed(of), m.failed(of)}; }
+            case 23: case 24: { int of = near(5); return new long[] {what, t.count(of), m.count(of)}; }
+            case 25: { int p = near(8); return new long[] {what, t.has(p), m.has(p)}; }
+            default: {
+                int r = near(4);
+                int i = near(10);
+                return new long[] {what, t.item(r, i), m.item(r, i)};
             }
         }
-        for (int p = 0; p < 8; p++) {
-            same &= t.has(p) == m.board[p];
+    }
+
+    private static void hold(int run, int call, long[] answers) {
+        if (answers[1] != answers[2]) {
+            System.out.println("run " + run + ", call " + call + " of sort " + answers[0] + " answered "
+                    + answers[1] + ", due is " + answers[2]);
+            System.exit(1);
         }
-        return same && t.count(4) == nothing;
     }
 
     public static void main(String[] args) {
@@ -346,13 +367,10 @@ public final class TollRulesAgainstModel {
             seed = run;
             TollRules t = new TollRules();
             Model m = new Model();
-            for (int call = 1; call <= CALLS; call++) {
+            for (int call = 1; call <= CALLS; call += 2) {
                 long[] answers = oneCall(t, m);
-                if (answers[1] != answers[2] || !sameState(t, m)) {
-                    System.out.println("run " + run + ", call " + call + " of sort " + answers[0] + " answered "
-                            + answers[1] + ", due is " + answers[2] + " with the state of the model");
-                    System.exit(1);
-                }
+                hold(run, call, answers);
+                hold(run, call + 1, oneQuestion(t, m));
                 if (answers[1] < 0 && answers[1] > -20) {
                     seen[(int) -answers[1]]++;
                 }
