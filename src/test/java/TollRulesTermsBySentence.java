@@ -363,6 +363,11 @@ public final class TollRulesTermsBySentence extends Sentences {
         int refused = make(t, THEN, taking(t, 61), lack);
         refuses(t, make(t, ELSE, refused, plus), 0, SPENT, plus);
         due("b as the 65th RULE: steps()", t.steps(), 64);
+        t = new TollRules();
+        plus = make(t, PLUS, 100);
+        refused = make(t, THEN, taking(t, 60), make(t, LACK, 0));
+        gives(t, make(t, ELSE, refused, plus), 0, 100);
+        due("b as the 64th RULE: steps()", t.steps(), 64);
     }
 
     private static void kindsThatCount() {

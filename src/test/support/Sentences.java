@@ -242,6 +242,11 @@ abstract class Sentences {
     }
 
     private static void holdAgainstDocument(String sections) throws IOException {
+        if (!Files.isReadable(DOCUMENT)) {
+            // The answers are no worse without the document; only the words can't be looked up.
+            System.out.println("the words are not held against " + DOCUMENT + ": it can't be read");
+            return;
+        }
         Map<String, String> document = textsBySection(Files.readString(DOCUMENT));
         for (String name : document.keySet()) {
             if (name.matches(sections)) {
