@@ -1,13 +1,17 @@
+import java.io.IOException;
 import java.lang.reflect.Constructor;
 import java.lang.reflect.Field;
 import java.lang.reflect.Method;
 import java.lang.reflect.Modifier;
+import java.nio.file.Files;
+import java.nio.file.Path;
 import java.util.Arrays;
 import java.util.Set;
 import java.util.TreeSet;
 
 /** The public face of the document, and nothing visible beside it. */
 public final class TollRulesFace {
+    private static final Path DOCUMENT = Path.of("../shared/DOC.md");
     private static final String[] FACE = {
         "long place(int,int)", "long has(int)", "int row(int,int)", "int share(int,int)",
         "int put(int,int,int)", "long item(int,int)", "int rule(int,int,int)", "int apply(int,int)",
@@ -16,7 +20,7 @@ public final class TollRulesFace {
         "int BAD", "int FULL", "long NONE", "new()",
     };
 
-    public static void main(String[] args) throws IllegalAccessException {
+    public static void main(String[] args) throws IOException {
         Class<?> c = TollRules.class;
         Set<String> visible = new TreeSet<>();
         Set<String> publicNames = new TreeSet<>();
@@ -48,6 +52,7 @@ public final class TollRulesFace {
         }
         Set<String> due = new TreeSet<>(Arrays.asList(FACE));
         wrong += check("the face is " + due + ", found " + visible, due.equals(visible));
+        wrong += faceOfDocument(due);
         wrong += check("the class is public and final",
                 Modifier.isPublic(c.getModifiers()) && Modifier.isFinal(c.getModifiers()));
         wrong += check("BAD", TollRules.BAD == -1);
@@ -56,6 +61,33 @@ public final class TollRulesFace {
         System.out.println(wrong == 0 ? "the face is as due" : wrong + " parts of the face are not as due");
         if (wrong != 0) {
             System.exit(1);
+        }
+    }
+
+    /** The face above is the one that the document writes, name by name. */
+    private static int faceOfDocument(Set<String> due) throws IOException {
+        if (!Files.isReadable(DOCUMENT)) {
+            System.out.println("the face is not held against " + DOCUMENT + ": it can't be read");
+            return 0;
+        }
+        Set<String> written = new TreeSet<>();
+        for (String line : Files.readString(DOCUMENT).split("```")[1].split("\n")) {
+            String member = line.strip().replaceAll("^public |;$", "");
+            if (member.startsWith("static final ")) {
+                addConstants(written, member.replace("static final ", ""));
+            } else if (member.contains("(")) {
+                String withoutNames = member.replaceAll("(int|long) \\w+(?=[,)])", "$1").replace(", ", ",");
+                written.add(withoutNames.replace("TollRules(", "new("));
+            }
+        }
+        return check("the document writes " + written + ", due is " + due, written.equals(due));
+    }
+
+    /** Of one line, such as: int BAD = -1, FULL = -2. */
+    private static void addConstants(Set<String> written, String line) {
+        String[] words = line.split("[ ,]+");
+        for (int i = 1; i < words.length; i += 3) {
+            written.add(words[0] + " " + words[i]);
         }
     }
 
